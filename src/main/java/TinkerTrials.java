@@ -742,7 +742,7 @@ public final class TinkerTrials {
 
         int sumOf(int state) {
             int sum = 0;
-            int begin = has(state) ? state * size : weights.length;
+            int begin = state >= 0 && state < size ? state * size : weights.length;
             for (int at = begin; at < begin + size && at < weights.length; at++) {
                 sum += weights[at];
             }
