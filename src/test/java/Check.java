@@ -5,15 +5,25 @@ import java.util.function.ToLongFunction;
 final class Check {
     private static int looked = 0;
     private static int wrong = 0;
+    private static String about = "";
 
     private Check() {
+    }
+
+    /** What the looks from now on are about; said ahead of each that is wrong. */
+    static void about(String sentence) {
+        about = sentence.isEmpty() ? "" : "[" + sentence + "] ";
+    }
+
+    static int looked() {
+        return looked;
     }
 
     static void due(String what, long got, long want) {
         looked++;
         if (got != want) {
             wrong++;
-            System.out.println("  " + what + " answered " + got + ", due is " + want);
+            System.out.println("  " + about + what + " answered " + got + ", due is " + want);
         }
     }
 

@@ -1,12 +1,46 @@
 /** Objects in which calls are tried, and all that such an object tells but its findings. */
 final class Worlds {
+    static final int LEAST = Integer.MIN_VALUE, MOST = Integer.MAX_VALUE;
     private static final int MOST_TOLD = 256;
+    private static final int[] NO_MACHINE = {-1, 4, 15, 16, MOST, LEAST};
+    private static final int[] NO_SHEET = {-1, 5, 11, 12, MOST, LEAST};
 
     private Worlds() {
     }
 
     static TinkerTrials empty() {
         return new TinkerTrials();
+    }
+
+    /** Numbers of no machine in the mixed world. */
+    static int[] noMachine() {
+        return NO_MACHINE.clone();
+    }
+
+    /** Numbers of no sheet in the mixed world. */
+    static int[] noSheet() {
+        return NO_SHEET.clone();
+    }
+
+    /** One machine alone, with a pay for each state that may have one. */
+    static TinkerTrials one(int kind, int n) {
+        TinkerTrials x = new TinkerTrials();
+        x.machine(kind, n);
+        for (int s = 0; s < n; s++) {
+            x.pay(0, s, 7 - 3 * s);
+        }
+        return x;
+    }
+
+    /** Whether a machine of a kind may have n states. */
+    static boolean fits(int kind, int n) {
+        switch (kind) {
+            case 0: return 1 <= n && n <= 5;
+            case 1: return n == 1;
+            case 2: return 1 <= n && n <= 5;
+            case 3: return 2 <= n && n <= 5;
+            default: return false;
+        }
     }
 
     /**
