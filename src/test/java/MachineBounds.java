@@ -164,6 +164,11 @@ final class MachineBounds {
         Check.due("to 1, the sum is 1", x.chance(0, 4, 0, 1), 10);
         Check.due("back to its own", x.chance(0, 4, 4, 9), 0);
         Check.due("another state's stays", x.chance(0, 0, 0, 1), 1);
+        x.pay(0, 0, 10);
+        // 1/20 of 20, that come by 0 in 2 steps, by 1 + 2/20; then 1/2 of them, by 1 + 2/2.
+        Check.tells("worth ahead of a change", x, x.worth(0, 4), 10, 11);
+        x.chance(0, 4, 4, 0);
+        Check.tells("worth behind it", x, x.worth(0, 4), 5, 1);
         x.machine(1, 1);
         for (int w = 1; w <= 10; w++) {
             Check.due("a STEADY's", x.chance(1, 0, 0, w), Math.max(1, w - 1));
@@ -188,17 +193,6 @@ final class MachineBounds {
             Refusals.any(Refusals.fit(1, 10), Refusals.wrong(STATE, 0)));
     }
 
-    /** A machine and a sheet of longs. */
-    private static TinkerTrials laid(int kind, int n, long... places) {
-        TinkerTrials x = new TinkerTrials();
-        x.machine(kind, n);
-        x.sheet(3, places.length);
-        for (int i = 0; i < places.length; i++) {
-            x.lay(0, i, places[i]);
-        }
-        return x;
-    }
-
     private static void fills() {
         for (int sheetKind = 0; sheetKind <= 3; sheetKind++) {
             for (int n = 1; n <= 5; n++) {
@@ -217,9 +211,9 @@ final class MachineBounds {
                 Check.due("beyond", x.finding(), BEYOND);
             }
         }
-        Check.due("a JOB, all 0", laid(3, 5, 0, 0, 0, 0, 0).fill(0, 0, 0), 5);
-        Check.due("a JOB, 50", laid(3, 5, 0, 0, 0, 50, 0).fill(0, 0, 0), 5);
-        Check.due("the least JOB, -50", laid(3, 2, -50, 0).fill(0, 0, 0), 2);
+        Check.due("a JOB, all 0", Worlds.laid(3, 5, 0, 0, 0, 0, 0).fill(0, 0, 0), 5);
+        Check.due("a JOB, 50", Worlds.laid(3, 5, 0, 0, 0, 50, 0).fill(0, 0, 0), 5);
+        Check.due("the least JOB, -50", Worlds.laid(3, 2, -50, 0).fill(0, 0, 0), 2);
     }
 
     private static void noFills() {
@@ -234,7 +228,7 @@ final class MachineBounds {
             for (int at = 0; at < 5; at++) {
                 long[] row = {1, 2, 3, 4, 5};
                 row[at] = v;
-                Check.refused(v + " at " + at, () -> laid(2, 5, row), x -> x.fill(0, 0, 0), STATE);
+                Check.refused(v + " at " + at, () -> Worlds.laid(2, 5, row), x -> x.fill(0, 0, 0), STATE);
             }
         }
         for (int n = 2; n <= 5; n++) {
@@ -243,9 +237,9 @@ final class MachineBounds {
                 row[at] = at % 2 == 0 ? 1 : -1;
                 int many = n;
                 if (at == n - 2) {
-                    Check.due("a JOB of " + n + ", at " + at, laid(3, n, row).fill(0, 0, 0), n);
+                    Check.due("a JOB of " + n + ", at " + at, Worlds.laid(3, n, row).fill(0, 0, 0), n);
                 } else {
-                    Check.refused("a JOB of " + n + ", at " + at, () -> laid(3, many, row), x -> x.fill(0, 0, 0),
+                    Check.refused("a JOB of " + n + ", at " + at, () -> Worlds.laid(3, many, row), x -> x.fill(0, 0, 0),
                         STATE);
                 }
             }

@@ -213,33 +213,23 @@ public final class MachinesTest {
         Check.refused("12 the sum 13", Worlds::mixed, x -> x.chance(0, 0, 0, 10), STATE);
     }
 
-    private static TinkerTrials laid(int kind, int n, long... places) {
-        TinkerTrials x = new TinkerTrials();
-        x.machine(kind, n);
-        x.sheet(3, places.length);
-        for (int i = 0; i < places.length; i++) {
-            x.lay(0, i, places[i]);
-        }
-        return x;
-    }
-
     private static void payIs(String what, TinkerTrials x, int state, int pay) {
         x.ask(0, state, 0);
         Check.due(what + ": pay of " + state, x.asked(), pay);
     }
 
     private static void fills() {
-        TinkerTrials x = laid(0, 3, 99, -50, 0, 50, 99);
+        TinkerTrials x = Worlds.laid(0, 3, 99, -50, 0, 50, 99);
         x.worth(0, 0);
         Check.due("13 how many", x.fill(0, 0, 1), 3);
         payIs("13", x, 0, -50);
         payIs("13", x, 1, 0);
         payIs("13", x, 2, 50);
         Check.tells("13 worth reckoned again", x, x.worth(0, 0), -50, 1);
-        x = laid(3, 4, 0, 0, -9, 0);
+        x = Worlds.laid(3, 4, 0, 0, -9, 0);
         Check.due("13 a JOB", x.fill(0, 0, 0), 4);
         payIs("13 a JOB", x, 2, -9);
-        x = laid(1, 1, 1, 2);
+        x = Worlds.laid(1, 1, 1, 2);
         Check.due("13 the last place", x.fill(0, 0, 1), 1);
         payIs("13 the last place", x, 0, 2);
     }
@@ -258,13 +248,13 @@ public final class MachinesTest {
         }
         Check.finds("13 BEYOND ahead of STATE", Worlds::mixed, x -> x.fill(3, 0, 4), BEYOND);
         Check.finds("13 a sheet without places", Worlds::mixed, x -> x.fill(1, 4, 0), BEYOND);
-        Check.refused("13 51", () -> laid(0, 3, 1, 2, 51), x -> x.fill(0, 0, 0), STATE);
-        Check.refused("13 -51", () -> laid(0, 3, -51, 2, 1), x -> x.fill(0, 0, 0), STATE);
-        Check.refused("13 0 but for what is cut off", () -> laid(0, 1, 1L << 32), x -> x.fill(0, 0, 0), STATE);
-        Check.refused("13 least of all", () -> laid(2, 2, 0, Long.MIN_VALUE), x -> x.fill(0, 0, 0), STATE);
-        Check.refused("13 a JOB: ahead", () -> laid(3, 3, 1, 2, 0), x -> x.fill(0, 0, 0), STATE);
-        Check.refused("13 a JOB: the last", () -> laid(3, 3, 0, 2, 1), x -> x.fill(0, 0, 0), STATE);
-        Check.refused("13 a JOB: 51", () -> laid(3, 3, 0, 51, 0), x -> x.fill(0, 0, 0), STATE);
+        Check.refused("13 51", () -> Worlds.laid(0, 3, 1, 2, 51), x -> x.fill(0, 0, 0), STATE);
+        Check.refused("13 -51", () -> Worlds.laid(0, 3, -51, 2, 1), x -> x.fill(0, 0, 0), STATE);
+        Check.refused("13 0 but for what is cut off", () -> Worlds.laid(0, 1, 1L << 32), x -> x.fill(0, 0, 0), STATE);
+        Check.refused("13 least of all", () -> Worlds.laid(2, 2, 0, Long.MIN_VALUE), x -> x.fill(0, 0, 0), STATE);
+        Check.refused("13 a JOB: ahead", () -> Worlds.laid(3, 3, 1, 2, 0), x -> x.fill(0, 0, 0), STATE);
+        Check.refused("13 a JOB: the last", () -> Worlds.laid(3, 3, 0, 2, 1), x -> x.fill(0, 0, 0), STATE);
+        Check.refused("13 a JOB: 51", () -> Worlds.laid(3, 3, 0, 51, 0), x -> x.fill(0, 0, 0), STATE);
     }
 
     private static void asks() {

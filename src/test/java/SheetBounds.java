@@ -62,6 +62,18 @@ final class SheetBounds {
             Check.due("p", x.count(2), one[0]);
             Check.due("q", x.count(3), one[1]);
         }
+        x = new TinkerTrials();
+        for (int k = 0; k < 16; k++) {
+            x.machine(2, 2);
+            x.pay(k, 1, 8);
+            x.worth(k, 0);
+        }
+        for (int k = 0; k < 16; k++) {
+            x.share(3, 4);
+            Check.tells("reckoned anew for machine " + k, x, x.worth(k, 0), 6, 1);
+            x.share(1, 8);
+            Check.tells("and once more", x, x.worth(k, 0), 1, 1);
+        }
     }
 
     private static void badShares() {
@@ -126,7 +138,8 @@ final class SheetBounds {
 
     private static void lays() {
         long[] laid = {0, 127, 128, 255, 256, -128, -129, 32767, 32768, 65535, 65536, -32768, -32769, Integer.MAX_VALUE,
-            1L + Integer.MAX_VALUE, 1L << 32, Integer.MIN_VALUE, Integer.MIN_VALUE - 1L, Long.MAX_VALUE, Long.MIN_VALUE};
+            1L + Integer.MAX_VALUE, 1L << 32, Integer.MIN_VALUE, Integer.MIN_VALUE - 1L, Long.MAX_VALUE,
+            Long.MIN_VALUE};
         long[][] due = {
             {0, 127, -128, -1, 0, -128, 127, -1, 0, -1, 0, 0, -1, -1, 0, 0, 0, -1, -1, 0},
             {0, 127, 128, 255, 256, -128, -129, 32767, -32768, -1, 0, -32768, 32767, -1, 0, 0, 0, -1, -1, 0},

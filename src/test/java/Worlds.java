@@ -32,6 +32,28 @@ final class Worlds {
         return x;
     }
 
+    /** A machine and a sheet of longs. */
+    static TinkerTrials laid(int kind, int n, long... places) {
+        TinkerTrials x = new TinkerTrials();
+        x.machine(kind, n);
+        x.sheet(3, places.length);
+        for (int i = 0; i < places.length; i++) {
+            x.lay(0, i, places[i]);
+        }
+        return x;
+    }
+
+    /** An AGEING alone, at a share. */
+    static TinkerTrials ageing(int p, int q, int... pays) {
+        TinkerTrials x = new TinkerTrials();
+        x.share(p, q);
+        x.machine(2, pays.length);
+        for (int s = 0; s < pays.length; s++) {
+            x.pay(0, s, pays[s]);
+        }
+        return x;
+    }
+
     /** Whether a machine of a kind may have n states. */
     static boolean fits(int kind, int n) {
         switch (kind) {

@@ -87,16 +87,6 @@ final class WorthBounds {
         return x;
     }
 
-    private static TinkerTrials ageing(int p, int q, int... pays) {
-        TinkerTrials x = new TinkerTrials();
-        x.share(p, q);
-        x.machine(2, pays.length);
-        for (int s = 0; s < pays.length; s++) {
-            x.pay(0, s, pays[s]);
-        }
-        return x;
-    }
-
     /** The longest numbers: 7 by 8, weights that come to 10, the widest pays. */
     private static TinkerTrials longest() {
         int[][] weights = {{0, 3, 3, 3, 1}, {3, 0, 1, 3, 3}, {3, 3, 0, 1, 3}, {1, 3, 3, 0, 3}, {3, 1, 3, 3, 0}};
@@ -121,7 +111,7 @@ final class WorthBounds {
                 Check.tells("all " + pay + ", the last of " + n, x, x.worth(0, n - 1), pay, 1);
             }
         }
-        TinkerTrials x = ageing(1, 8, -50, 50);
+        TinkerTrials x = Worlds.ageing(1, 8, -50, 50);
         Check.tells("least of all, then greatest, at 1 by 8", x, x.worth(0, 0), -75, 2);
     }
 
@@ -141,7 +131,7 @@ final class WorthBounds {
             Check.due("set 32", x.way(0, 0, 32), BAD);
             Check.due("set -1", x.way(0, 0, -1), BAD);
         }
-        TinkerTrials x = ageing(1, 2, 1, 2, 3, 4, 5);
+        TinkerTrials x = Worlds.ageing(1, 2, 1, 2, 3, 4, 5);
         Check.tells("the empty set", x, x.way(0, 0, 0), 1, 1);
         // 1 + 2/2 + 3/4 + 4/8 + 5/8, by 2 steps.
         Check.tells("the set of all", x, x.way(0, 0, 31), 31, 16);
@@ -260,7 +250,7 @@ final class WorthBounds {
         Check.due("1", x.even(0, 2, FEE, FEE), 2);
         Check.due("-1", x.even(0, 2, -FEE, FEE), 1);
         // 7/8 by 1 + 7/8.
-        x = ageing(7, 8, 0, 1, 0);
+        x = Worlds.ageing(7, 8, 0, 1, 0);
         Check.due("7 by 15", x.even(0, 0, 466666, 999999), 1);
         Check.due("7 by 15, nearer", x.even(0, 0, 466667, 1000000), 2);
         Check.due("7 by 15 itself", x.even(0, 0, 466662, 999990), 0);
@@ -290,12 +280,12 @@ final class WorthBounds {
         Check.tells("the pay itself", x, x.better(0, 0), 0, 1);
         Check.tells("the least pay itself", x, x.better(0, 1), 0, 1);
         // -50 + 50/2 + 50/4 .. by 2: 0, and 50 above.
-        x = ageing(1, 2, -50, 50);
+        x = Worlds.ageing(1, 2, -50, 50);
         Check.tells("above -50", x, x.better(0, 0), 50, 1);
-        x = ageing(7, 8, -50, 50);
+        x = Worlds.ageing(7, 8, -50, 50);
         // -50 + 7/8 * 50 * 8 by 8 is 300/8.
         Check.tells("above -50, at 7 by 8", x, x.better(0, 0), 175, 2);
-        x = ageing(1, 8, -50, 50);
+        x = Worlds.ageing(1, 8, -50, 50);
         Check.tells("above -50, at 1 by 8", x, x.better(0, 0), 25, 2);
     }
 
@@ -304,7 +294,7 @@ final class WorthBounds {
             TinkerTrials x = staying(pay);
             Check.tells("a lone one", x, x.mean(0, 0), pay, 1);
         }
-        TinkerTrials x = ageing(1, 8, 1, 2, 50);
+        TinkerTrials x = Worlds.ageing(1, 8, 1, 2, 50);
         Check.tells("the next one, whole", x, x.mean(0, 0), 2, 1);
         Check.tells("the last one", x, x.mean(0, 1), 50, 1);
         Check.tells("behind the last one, itself", x, x.mean(0, 2), 50, 1);
@@ -328,17 +318,17 @@ final class WorthBounds {
                 less[s] = -s;
             }
             for (int s = 0; s < n; s++) {
-                Check.due("ever more: all that are left", ageing(1, 2, more).row(0, s), n - s);
-                Check.due("ever less: 1", ageing(1, 2, less).row(0, s), 1);
-                Check.due("all alike: the least", ageing(1, 2, new int[n]).row(0, s), 1);
+                Check.due("ever more: all that are left", Worlds.ageing(1, 2, more).row(0, s), n - s);
+                Check.due("ever less: 1", Worlds.ageing(1, 2, less).row(0, s), 1);
+                Check.due("all alike: the least", Worlds.ageing(1, 2, new int[n]).row(0, s), 1);
             }
         }
         // 0; 1 by 3/2; 1 + 1/2 + 1/4 .. by 2.
-        Check.due("alike pays behind a lesser one", ageing(1, 2, 0, 2, 2).row(0, 0), 3);
+        Check.due("alike pays behind a lesser one", Worlds.ageing(1, 2, 0, 2, 2).row(0, 0), 3);
         // 5 by 1; 5 + 5/2 by 3/2 is alike.
-        Check.due("the least of alike ones", ageing(1, 2, 5, 5, 4).row(0, 0), 1);
+        Check.due("the least of alike ones", Worlds.ageing(1, 2, 5, 5, 4).row(0, 0), 1);
         // 0; 6/2 by 3/2 is 2; 6/2 + 2/4 by 7/4 is 2, too; the last one less.
-        Check.due("the least of alike ones, later", ageing(1, 2, 0, 6, 2, -9).row(0, 0), 2);
+        Check.due("the least of alike ones, later", Worlds.ageing(1, 2, 0, 6, 2, -9).row(0, 0), 2);
         for (int n = 2; n <= 5; n++) {
             TinkerTrials x = Worlds.one(3, n);
             Check.due("a JOB's pay", x.pay(0, n - 2, 50), 1000 + 7 - 3 * (n - 2));

@@ -236,38 +236,28 @@ public final class WorthsTest {
         Check.tells("24 of its last one", x, x.mean(1, 1), 6, 1);
     }
 
-    private static TinkerTrials ageing(int p, int q, int... pays) {
-        TinkerTrials x = new TinkerTrials();
-        x.share(p, q);
-        x.machine(2, pays.length);
-        for (int s = 0; s < pays.length; s++) {
-            x.pay(0, s, pays[s]);
-        }
-        return x;
-    }
-
     private static void rows() {
-        TinkerTrials x = ageing(2, 3, 2, 8, 8, 1);
+        TinkerTrials x = Worlds.ageing(2, 3, 2, 8, 8, 1);
         Check.due("25 from the first", x.row(0, 0), 3);
         Check.due("25 from the second: two are alike to one", x.row(0, 1), 1);
         Check.due("25 from the third", x.row(0, 2), 1);
         Check.due("25 from the last", x.row(0, 3), 1);
-        Check.due("25 alike ones", ageing(1, 2, 4, 4, 4, 4, 4).row(0, 0), 1);
-        Check.due("25 ever more", ageing(1, 2, 1, 2, 3, 4, 5).row(0, 0), 5);
-        Check.due("25 ever more, from within", ageing(1, 2, 1, 2, 3, 4, 5).row(0, 2), 3);
-        Check.due("25 ever less", ageing(1, 2, 5, 4, 3, 2, 1).row(0, 0), 1);
+        Check.due("25 alike ones", Worlds.ageing(1, 2, 4, 4, 4, 4, 4).row(0, 0), 1);
+        Check.due("25 ever more", Worlds.ageing(1, 2, 1, 2, 3, 4, 5).row(0, 0), 5);
+        Check.due("25 ever more, from within", Worlds.ageing(1, 2, 1, 2, 3, 4, 5).row(0, 2), 3);
+        Check.due("25 ever less", Worlds.ageing(1, 2, 5, 4, 3, 2, 1).row(0, 0), 1);
         // At 1 by 2: 0; 2/3 by 2 steps; 2/7 by 3 steps less; the last one for ever: 0 + 1 - 1 + 20/4 by 2.
-        Check.due("25 a poor one between", ageing(1, 2, 0, 2, -4, 20).row(0, 0), 4);
-        Check.due("25 a poorer one between", ageing(1, 2, 0, 2, -40, 20).row(0, 0), 2);
-        Check.due("25 a lone one", ageing(1, 2, -7).row(0, 0), 1);
+        Check.due("25 a poor one between", Worlds.ageing(1, 2, 0, 2, -4, 20).row(0, 0), 4);
+        Check.due("25 a poorer one between", Worlds.ageing(1, 2, 0, 2, -40, 20).row(0, 0), 2);
+        Check.due("25 a lone one", Worlds.ageing(1, 2, -7).row(0, 0), 1);
         Check.due("25 a JOB", Worlds.mixed().row(3, 0), 2);
         Check.due("25 a JOB, the pay's state", Worlds.mixed().row(3, 1), 1);
-        x = ageing(1, 2, 1, 5);
+        x = Worlds.ageing(1, 2, 1, 5);
         Check.due("25 ahead", x.row(0, 0), 2);
         x.pay(0, 1, 1);
         Check.due("25 after another pay", x.row(0, 0), 1);
         // 2 + b * 0 + b * b * 3 / (1 - b): above 2 by what is left if b is great enough.
-        x = ageing(1, 8, 2, 0, 3);
+        x = Worlds.ageing(1, 8, 2, 0, 3);
         Check.due("25 a small share", x.row(0, 0), 1);
         x.share(7, 8);
         Check.due("25 a great share", x.row(0, 0), 3);
