@@ -1,5 +1,3 @@
-import java.math.BigInteger;
-
 /**
  * Promises 16 to 27 and 29 to 31 on machines drawn by a seed, against worths reckoned as the terms say it:
  * all ways of a machine, each by the means of its pays and of its steps, in fractions without a bound.
@@ -7,41 +5,6 @@ import java.math.BigInteger;
 public final class OracleTest {
     private static final int TRIALS = 600;
     private static long drawn = 20261118;
-
-    /** A fraction without a bound, its lower number above 0. */
-    private record Part(BigInteger top, BigInteger bottom) {
-        static final Part ZERO = of(0, 1);
-
-        static Part of(long a, long b) {
-            return lowest(BigInteger.valueOf(a), BigInteger.valueOf(b));
-        }
-
-        static Part lowest(BigInteger a, BigInteger b) {
-            BigInteger common = a.gcd(b);
-            BigInteger divisor = b.signum() < 0 ? common.negate() : common;
-            return new Part(a.divide(divisor), b.divide(divisor));
-        }
-
-        Part plus(Part o) {
-            return lowest(top.multiply(o.bottom).add(o.top.multiply(bottom)), bottom.multiply(o.bottom));
-        }
-
-        Part times(Part o) {
-            return lowest(top.multiply(o.top), bottom.multiply(o.bottom));
-        }
-
-        Part by(Part o) {
-            return lowest(top.multiply(o.bottom), bottom.multiply(o.top));
-        }
-
-        Part less(Part o) {
-            return plus(o.times(of(-1, 1)));
-        }
-
-        int against(Part o) {
-            return top.multiply(o.bottom).compareTo(o.top.multiply(bottom));
-        }
-    }
 
     /** A machine as it was drawn. */
     private record Drawn(int kind, int n, int[] pays, int[][] weights, Part[] worths) {
@@ -105,59 +68,15 @@ public final class OracleTest {
                 weights[s][Math.min(n - 1, s + 1)] = 1;
             }
         }
-        Drawn one = new Drawn(kind, n, pays, weights, new Part[n]);
-        for (int s = 0; s < n; s++) {
-            for (int set = 0; set < 1 << n; set++) {
-                Part value = value(one, s, set, Part.of(p, q));
-                one.worths[s] = one.worths[s] == null || value.against(one.worths[s]) > 0 ? value : one.worths[s];
-            }
-        }
-        return one;
+        return new Drawn(kind, n, pays, weights, Ways.worths(pays, weights, Part.of(p, q)));
     }
 
-    /** The mean of pays by that of steps, each the solution of its own equations. */
     private static Part value(Drawn one, int start, int set, Part share) {
-        Part[] pays = new Part[one.n];
-        Part[] steps = new Part[one.n];
-        for (int s = 0; s < one.n; s++) {
-            pays[s] = Part.of(one.pays[s], 1);
-            steps[s] = Part.of(1, 1);
-        }
-        return means(one, start, set, share, pays).by(means(one, start, set, share, steps));
-    }
-
-    /** What is got from the start on: its own, and by the share what each state of the set gets that comes next. */
-    private static Part means(Drawn one, int start, int set, Part share, Part[] gains) {
-        int n = one.n;
-        Part[][] rows = new Part[n][n + 1];
-        for (int s = 0; s < n; s++) {
-            int sum = 0;
-            for (int w : one.weights[s]) {
-                sum += w;
-            }
-            for (int t = 0; t < n; t++) {
-                Part goes = (set >> t & 1) == 0 ? Part.ZERO : share.times(Part.of(one.weights[s][t], sum));
-                rows[s][t] = Part.of(s == t ? 1 : 0, 1).less(goes);
-            }
-            rows[s][n] = gains[s];
-        }
-        for (int k = 0; k < n; k++) {
-            Part pivot = rows[k][k];
-            for (int c = k; c <= n; c++) {
-                rows[k][c] = rows[k][c].by(pivot);
-            }
-            for (int r = 0; r < n; r++) {
-                Part head = rows[r][k];
-                for (int c = k; c <= n && r != k; c++) {
-                    rows[r][c] = rows[r][c].less(head.times(rows[k][c]));
-                }
-            }
-        }
-        return rows[start][n];
+        return Ways.value(one.pays, one.weights, start, set, share);
     }
 
     private static void tells(String what, TinkerTrials x, int answer, Part due) {
-        Check.tells(what, x, answer, due.top.longValueExact(), due.bottom.longValueExact());
+        Check.tells(what, x, answer, due.top().longValueExact(), due.bottom().longValueExact());
     }
 
     private static void trial(int k) {
@@ -195,7 +114,7 @@ public final class OracleTest {
     }
 
     private static void evens(String what, TinkerTrials x, int s, Part worth) {
-        long whole = worth.top.divide(worth.bottom).longValueExact();
+        long whole = worth.top().divide(worth.bottom()).longValueExact();
         for (int b = 1; b <= 1000000; b = b * 37 + 1) {
             for (long a = whole * b - 1; a <= whole * b + 1; a++) {
                 if (Math.abs(a) <= 1000000) {
@@ -204,9 +123,9 @@ public final class OracleTest {
                 }
             }
         }
-        if (worth.bottom.bitLength() < 20 && worth.top.bitLength() < 20) {
-            int fee = worth.top.intValueExact();
-            Check.due(what + " at itself", x.even(0, s, fee, worth.bottom.intValueExact()), 0);
+        if (worth.bottom().bitLength() < 20 && worth.top().bitLength() < 20) {
+            int fee = worth.top().intValueExact();
+            Check.due(what + " at itself", x.even(0, s, fee, worth.bottom().intValueExact()), 0);
         }
     }
 
